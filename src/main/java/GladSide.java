@@ -401,7 +401,7 @@ public final class GladSide {
 
     int houseOfJoy(int joy) {
       int one = street.of[joy];
-      return street.isPerson(one) ? house[one] : 0;
+      return one >= 0 && one < MOST_PEOPLE ? house[one] : 0;
     }
 
     int sideOfJoy(int joy) {
@@ -673,7 +673,7 @@ public final class GladSide {
           top--;
           if (stack[top] == 0) i = Math.max(i, tells[i]);
         } else if (sign == '!') {
-          stack[top - 1] = asNumber(stack[top - 1] == 0);
+          stack[top - 1] = stack[top - 1] == 0 ? 1 : 0;
         } else if (sign == NEGATIVE) {
           stack[top - 1] = -stack[top - 1];
         } else if (top > 1) {
@@ -688,17 +688,13 @@ public final class GladSide {
       return name >= 0 && name < NAMES ? names[name] : 0;
     }
 
-    private static int asNumber(boolean so) {
-      return so ? 1 : 0;
-    }
-
     private static int join(int sign, int a, int b) {
       switch (sign) {
-        case '|': return asNumber(a != 0 || b != 0);
-        case '&': return asNumber(a != 0 && b != 0);
-        case '<': return asNumber(a < b);
-        case '=': return asNumber(a == b);
-        case '>': return asNumber(a > b);
+        case '|': return a != 0 || b != 0 ? 1 : 0;
+        case '&': return a != 0 && b != 0 ? 1 : 0;
+        case '<': return a < b ? 1 : 0;
+        case '=': return a == b ? 1 : 0;
+        case '>': return a > b ? 1 : 0;
         case '+': return a + b;
         case '-': return a - b;
         case '*': return a * b;
@@ -946,22 +942,26 @@ public final class GladSide {
       then = new Course(street);
     }
 
-    private Course fromNow() {
+    private void startNow() {
       then.take(now, street.people, street.joys);
-      return then;
     }
 
     Course behind(int n) {
-      return laterBy(fromNow(), n);
+      startNow();
+      for (int i = 0; i < n; i++) then.pass();
+      return then;
     }
 
-    private static Course laterBy(Course course, int n) {
-      for (int i = 0; i < n; i++) course.pass();
-      return course;
+    /** With one, if anybody is so numbered, in that house from now on. */
+    private int worthBehind(int n, int one, int house) {
+      startNow();
+      if (street.isPerson(one)) then.house[one] = house;
+      for (int i = 0; i < n; i++) then.pass();
+      return then.worthOfHad();
     }
 
     int firstDayOf(int joy, int state) {
-      fromNow();
+      startNow();
       for (int n = 0; n <= FARTHEST; n++) {
         if (then.isIn(joy, state)) return n;
         then.pass();
@@ -970,21 +970,15 @@ public final class GladSide {
     }
 
     void seekMove(int n) {
-      most = behind(n).worthOfHad();
+      most = worthBehind(n, -1, 0);
       which = NOBODY;
-      for (int one = 0; one < street.people; one++) {
-        for (int house = 0; house < HOUSES; house++) {
-          if (house != now.house[one]) weighMove(one, house, n);
+      for (int place = 0; place < HOUSES * street.people; place++) {
+        int worth = worthBehind(n, place / HOUSES, place % HOUSES);
+        if (worth > most) {
+          most = worth;
+          which = place;
         }
       }
-    }
-
-    private void weighMove(int one, int house, int n) {
-      fromNow().house[one] = house;
-      int worth = laterBy(then, n).worthOfHad();
-      if (worth <= most) return;
-      most = worth;
-      which = HOUSES * one + house;
     }
 
     void seekDue(int joy, int n) {
@@ -992,7 +986,7 @@ public final class GladSide {
       most = -1;
       for (int due = 0; due <= LAST_DUE; due++) {
         street.due[joy] = due;
-        int worth = behind(n).worthOfHad();
+        int worth = worthBehind(n, -1, 0);
         if (worth > most) {
           most = worth;
           which = due;
@@ -1003,7 +997,7 @@ public final class GladSide {
 
     /** The first element of the row that is not as one's days go from now on. */
     int firstUnlike(int shelf, int one) {
-      fromNow();
+      startNow();
       int n = Math.min(shelves.lengthOf(shelf), SEEN_DAYS);
       for (int i = 0; i < n; i++) {
         long seen = shelves.cell(shelf, i);
@@ -1033,7 +1027,7 @@ public final class GladSide {
       int z = seed;
       int sum = 0;
       for (int i = 0; i < lanes; i++) {
-        fromNow();
+        startNow();
         for (int k = 0; k < days; k++) {
           z = z * 1103515245 + 12345;
           moveByDraw(z, moving);
@@ -1268,7 +1262,7 @@ public final class GladSide {
     }
 
     private boolean isRow(int shelf) {
-      return isShelf(shelf) && holds[shelf] < SORTS;
+      return shelf >= 0 && shelf < SHELVES && holds[shelf] < SORTS;
     }
 
     int bodyOn(int shelf) {

@@ -116,7 +116,9 @@ public final class ActTest {
     due("37 n 60", x.row(0, 3, 60), 1);
     for (int i = 0; i < 60; i++) due("37 0 at first", x.element(0, i), 0);
     x.put(0, 59, 5);
+    x.put(0, 0, 6);
     due("37 a new one", x.row(0, 3, 60), 1);
+    due("37 0 again at first", x.element(0, 0), 0);
     due("37 0 again", x.element(0, 59), 0);
     x.put(0, 3, 8);
     due("37 -14 changes nothing", x.row(0, 3, -1), -14);

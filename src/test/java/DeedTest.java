@@ -170,6 +170,20 @@ public final class DeedTest {
     due("30 the new joy ran as it has", x.of(1, 6), 1);
     due("30 people stay", x.count(0), 2);
     due("30 joys stay", x.count(1), 2);
+    x.mend(1, 6, 0);
+    x.mend(1, 7, 1);
+    due("30 came, lost", x.back(), 0);
+    due("30 the new joy is lost as it is", x.of(1, 7), 1);
+    GladSide empty = living();
+    empty.image();
+    empty.person(5);
+    empty.joy(0, 0);
+    empty.mend(0, 6, 3);
+    empty.mend(0, 7, 1);
+    due("30 to an empty lane", empty.back(), 0);
+    due("30 his house is as it is", empty.of(0, 0), 5);
+    due("30 his joy ran as it has", empty.of(0, 6), 3);
+    due("30 his joy is lost as it is", empty.of(0, 7), 1);
   }
 
   private static void promise31() {
@@ -196,6 +210,16 @@ public final class DeedTest {
     for (int i = 39; i >= 0; i--) due("31 undo", x.undo(), i);
     due("31 the 40 latest", x.of(0, 11), 5);
     due("31 the others not", x.undo(), -5);
+    GladSide many = living(0, 0, 0, 0, 0, 0, 0);
+    for (int i = 0; i < 10; i++) many.joy(0, 0);
+    for (int i = 0; i < 60; i++) many.mend(i % 10, 1 + i / 10, 1 + i / 10 == 2 ? 4 : 1);
+    for (int i = 39; i >= 0; i--) due("31 undo of many", many.undo(), i);
+    for (int i = 0; i < 60; i++) {
+      int what = 1 + i / 10;
+      due("31 left of many " + i, many.of(i % 10, what), i < 20 ? what == 1 ? 1 : 4 : new int[] {9, 5, 0, 0}[what - 3]);
+    }
+    for (int i = 39; i >= 0; i--) due("32 redo of many", many.redo(), i);
+    for (int i = 0; i < 60; i++) due("32 again of many " + i, many.of(i % 10, 1 + i / 10), i / 10 == 1 ? 4 : 1);
     int[] least = {1, 1, 3, 1, 1, 1, 1, 1, 1, 2, 1, 1};
     for (int what = 0; what <= 11; what++) {
       int was = x.mend(0, what, least[what]);

@@ -106,6 +106,8 @@ public final class PeopleTest {
     due("4 due 100", withRow(0, 0, 100, 1).joys(0, 0, 1), 0);
     due("4 worth 10", withRow(0, 0, 1, 10).joys(0, 0, 1), 0);
     due("4 worth -1", withRow(0, 0, 1, -1).joys(0, 0, 1), 0);
+    due("4 the last three", withRow(0, 1, 2, 3).joys(0, 0, 1), 1);
+    due("4 the last three but one", withRow(0, 1, 2, 3, 0).joys(0, 1, 1), 0);
     GladSide full = withRow(0, new int[60]);
     due("4 all that are asked", full.joys(0, 0, 7), 7);
     due("4 up to full", full.joys(0, 0, 10), 3);
@@ -222,6 +224,15 @@ public final class PeopleTest {
     x.mend(1, 0, 6);
     due("9 it runs elsewhere", x.smell(0, 5), 5);
     x.mend(1, 0, 4);
+    x.mend(0, 6, 1);
+    due("9 the first one runs there", x.smell(1, 5), 6);
+    x.mend(0, 6, 2);
+    due("9 had runs no more", x.smell(1, 5), 5);
+    x.mend(0, 6, 0);
+    x.mend(0, 0, 5);
+    due("9 house 12 is on no side", x.smell(0, 12), -1);
+    due("9 from side 1 now", x.smell(0, 4), 5);
+    x.mend(0, 0, 4);
     x.mend(0, 4, 9);
     due("9 at most 9", x.smell(0, 5), 9);
     law9(x, "w", 9);

@@ -133,6 +133,12 @@ public final class ThoughtTest {
     due("12 the vote is ahead of the joys", x.lane(4, 1), 1);
     due("12 it waits till then", x.lane(3, 0), 1);
     due("12 glad on the other side now", x.lane(4, 4), 1);
+    for (int i = 0; i < 4; i++) x.day();
+    due("12 a turn in deed", x.led(3), 1);
+    due("12 it is none of these days", x.lane(60, 8), 0);
+    x.moves(0, 4);
+    x.moves(1, 4);
+    due("12 another turn", x.lane(3, 8), 1);
     GladSide y = living(1, 0);
     y.mend(0, 8, 1);
     y.mend(0, 9, 2);
@@ -289,6 +295,10 @@ public final class ThoughtTest {
     due("16 late enough for the vote", y.date(0, 60, 0), 11);
     due("16 had by it", y.date(0, 60, 1), 5);
     due("16 no change that may be undone", y.count(3), 1);
+    GladSide last = living(1);
+    last.joy(0, 0);
+    last.mend(0, 11, 107);
+    due("16 the last due alone", last.date(0, 60, 0), 99);
     y.joy(1, 0);
     y.mend(1, 6, 2);
     due("16 all that is had", y.date(0, 60, 1), 10);
