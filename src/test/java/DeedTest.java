@@ -19,14 +19,8 @@ public final class DeedTest {
     CHECKS.due(call, got, want);
   }
 
-  private static GladSide living(int... houses) {
-    GladSide x = new GladSide();
-    for (int house : houses) x.person(house);
-    return x;
-  }
-
   private static void promise25() {
-    GladSide x = living(3, 8);
+    GladSide x = Lanes.living(3, 8);
     due("25 one -1", x.moves(-1, 0), -1);
     due("25 one 2", x.moves(2, 0), -1);
     due("25 house -1", x.moves(0, -1), -1);
@@ -40,7 +34,7 @@ public final class DeedTest {
   }
 
   private static void promise26() {
-    GladSide x = living(0, 1);
+    GladSide x = Lanes.living(0, 1);
     due("26 nobody glad", x.day(), 0);
     x.joy(0, 2);
     x.joy(1, 0);
@@ -56,7 +50,7 @@ public final class DeedTest {
     x.day();
     due("26 199 stays", x.of(0, 11), 199);
     due("26 days are led", x.led(1), 6);
-    GladSide y = living(1, 0, 3);
+    GladSide y = Lanes.living(1, 0, 3);
     y.joy(0, 0);
     y.mend(0, 11, 12);
     due("26 the vote makes glad", y.day(), 1);
@@ -64,7 +58,7 @@ public final class DeedTest {
   }
 
   private static void promise27() {
-    GladSide x = living(0, 1, 3, 6);
+    GladSide x = Lanes.living(0, 1, 3, 6);
     due("27 no joy", x.inspect(), 0);
     x.joy(0, 0);
     x.mend(0, 4, 9);
@@ -86,7 +80,7 @@ public final class DeedTest {
   }
 
   private static void promise28() {
-    GladSide x = living(1, 3, 0);
+    GladSide x = Lanes.living(1, 3, 0);
     due("28 what -1", x.led(-1), -1);
     due("28 what 6", x.led(6), -1);
     x.mend(0, 9, 2);
@@ -112,14 +106,14 @@ public final class DeedTest {
     x.mend(0, 6, 0);
     x.mend(0, 6, 2);
     due("28 had by mend() is no deed", x.led(5), 2);
-    GladSide nobody = living();
+    GladSide nobody = Lanes.living();
     nobody.mend(0, 9, 2);
     for (int i = 0; i < 3; i++) nobody.day();
     due("28 a vote of nobody", nobody.led(2), 1);
   }
 
   private static void promises29and30() {
-    GladSide x = living(1, 0, 3);
+    GladSide x = Lanes.living(1, 0, 3);
     due("30 none", x.back(), -5);
     x.joy(0, 0);
     x.joy(1, 0);
@@ -157,7 +151,7 @@ public final class DeedTest {
   }
 
   private static void promise30Came() {
-    GladSide x = living(0);
+    GladSide x = Lanes.living(0);
     x.joy(0, 0);
     x.image();
     x.person(2);
@@ -174,7 +168,7 @@ public final class DeedTest {
     x.mend(1, 7, 1);
     due("30 came, lost", x.back(), 0);
     due("30 the new joy is lost as it is", x.of(1, 7), 1);
-    GladSide empty = living();
+    GladSide empty = Lanes.living();
     empty.image();
     empty.person(5);
     empty.joy(0, 0);
@@ -187,7 +181,7 @@ public final class DeedTest {
   }
 
   private static void promise31() {
-    GladSide x = living(0);
+    GladSide x = Lanes.living(0);
     due("31 none", x.undo(), -5);
     x.joy(0, 4);
     x.mend(0, 1, 4);
@@ -210,7 +204,7 @@ public final class DeedTest {
     for (int i = 39; i >= 0; i--) due("31 undo", x.undo(), i);
     due("31 the 40 latest", x.of(0, 11), 5);
     due("31 the others not", x.undo(), -5);
-    GladSide many = living(0, 0, 0, 0, 0, 0, 0);
+    GladSide many = Lanes.living(0, 0, 0, 0, 0, 0, 0);
     for (int i = 0; i < 10; i++) many.joy(0, 0);
     for (int i = 0; i < 60; i++) many.mend(i % 10, 1 + i / 10, 1 + i / 10 == 2 ? 4 : 1);
     for (int i = 39; i >= 0; i--) due("31 undo of many", many.undo(), i);
@@ -232,7 +226,7 @@ public final class DeedTest {
   }
 
   private static void promise31Deeds() {
-    GladSide x = living(2);
+    GladSide x = Lanes.living(2);
     x.joy(0, 0);
     x.mend(0, 0, 4);
     x.mend(0, 11, 3);
@@ -261,7 +255,7 @@ public final class DeedTest {
   }
 
   private static void promise32() {
-    GladSide x = living(0);
+    GladSide x = Lanes.living(0);
     due("32 none", x.redo(), -5);
     x.mend(0, 9, 20);
     due("32 none undone", x.redo(), -5);

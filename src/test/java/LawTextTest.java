@@ -9,11 +9,6 @@ public final class LawTextTest {
     CHECKS.end("LawTextTest");
   }
 
-  private static int told(GladSide x, String text) {
-    for (int i = 0; i < text.length(); i++) x.feed(text.charAt(i));
-    return x.law();
-  }
-
   private static void drawnBytes(Draws draws) {
     StringBuilder text = new StringBuilder();
     int length = draws.below(40);
@@ -28,7 +23,7 @@ public final class LawTextTest {
 
   private static void checkFault(String text) {
     int fault = fault(text);
-    CHECKS.due("law of " + text, told(new GladSide(), text), fault < 0 ? 1 : -100 - fault);
+    CHECKS.due("law of " + text, Lanes.told(new GladSide(), text), fault < 0 ? 1 : -100 - fault);
   }
 
   /** Byte by byte, with all that is open on a stack; -1: it is a text. */
@@ -121,7 +116,7 @@ public final class LawTextTest {
     }
     if (text.length() > 120) return;
     GladSide x = laneOf(names);
-    CHECKS.due("law of " + text, told(x, text.toString()), 1);
+    CHECKS.due("law of " + text, Lanes.told(x, text.toString()), 1);
     CHECKS.due("by " + text, x.smell(0, 1), Math.max(0, Math.min(9, worth)));
   }
 

@@ -172,11 +172,6 @@ public final class PeopleTest {
     due("7 empty", x.count(2), 0);
   }
 
-  private static int told(GladSide x, String text) {
-    for (int i = 0; i < text.length(); i++) x.feed(text.charAt(i));
-    return x.law();
-  }
-
   private static void promise8() {
     GladSide x = new GladSide();
     String[] texts = {"", "1", "1?", "1?2", "1?2?3", "12345", "1234", "1;", ";1", "1;;", "a", "w g", "(1", "(1)", "1)",
@@ -188,18 +183,18 @@ public final class PeopleTest {
       -1, 8, 2, 2, 2, -1, -1, 2, 2, 2, 1, 1,
       1, -1, 4, 6, -1, -1, 0};
     for (int i = 0; i < texts.length; i++) {
-      due("8 law of " + texts[i], told(x, texts[i]), faults[i] < 0 ? 1 : -100 - faults[i]);
+      due("8 law of " + texts[i], Lanes.told(x, texts[i]), faults[i] < 0 ? 1 : -100 - faults[i]);
       due("8 empty behind " + texts[i], x.count(2), 0);
     }
     x.person(0);
     x.joy(0, 0);
-    due("8 seven", told(x, "7"), 1);
-    due("8 a fault leaves the law", told(x, "8)"), -101);
+    due("8 seven", Lanes.told(x, "7"), 1);
+    due("8 a fault leaves the law", Lanes.told(x, "8)"), -101);
     due("8 seven still", x.smell(0, 1), 7);
     StringBuilder longest = new StringBuilder("1");
     while (longest.length() < 119) longest.append("-0");
-    due("8 longest", told(x, longest + ";"), -220);
-    due("8 longest but one", told(x, longest.toString()), 1);
+    due("8 longest", Lanes.told(x, longest + ";"), -220);
+    due("8 longest but one", Lanes.told(x, longest.toString()), 1);
     due("8 it gives", x.smell(0, 1), 1);
   }
 
@@ -282,7 +277,7 @@ public final class PeopleTest {
   }
 
   private static void law9(GladSide x, String text, int want) {
-    due("9 law " + text, told(x, text), 1);
+    due("9 law " + text, Lanes.told(x, text), 1);
     due("9 by " + text, x.smell(0, 7), want);
   }
 }

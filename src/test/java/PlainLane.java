@@ -40,8 +40,7 @@ final class PlainLane {
       else if (call[0] == 1) x.joy(call[1], call[2]);
       else x.mend(call[1], call[2], call[3]);
     }
-    for (int i = 0; i < law.length(); i++) x.feed(law.charAt(i));
-    if (!law.isEmpty()) x.law();
+    if (!law.isEmpty()) Lanes.told(x, law);
     return x;
   }
 }

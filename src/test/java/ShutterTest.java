@@ -19,12 +19,6 @@ public final class ShutterTest {
     CHECKS.due(call, got, want);
   }
 
-  private static GladSide living(int... houses) {
-    GladSide x = new GladSide();
-    for (int house : houses) x.person(house);
-    return x;
-  }
-
   private static void lay(GladSide x, int shelf, int... seen) {
     x.row(shelf, 0, seen.length);
     for (int i = 0; i < seen.length; i++) x.put(shelf, i, seen[i]);
@@ -46,7 +40,7 @@ public final class ShutterTest {
   }
 
   private static void promise17() {
-    GladSide x = living(0, 1);
+    GladSide x = Lanes.living(0, 1);
     layOthers(x);
     x.joy(0, 1);
     refuses("17", x.judge(0, 0), x.judge(1, 0), x.judge(2, 0), x.judge(-1, 0), x.judge(6, 0));
@@ -73,7 +67,7 @@ public final class ShutterTest {
   }
 
   private static void promise17Days() {
-    GladSide x = living(0);
+    GladSide x = Lanes.living(0);
     x.joy(0, 39);
     int[] seen = new int[60];
     seen[40] = 1;
@@ -87,7 +81,7 @@ public final class ShutterTest {
   }
 
   private static void promise18() {
-    GladSide x = living(0, 1);
+    GladSide x = Lanes.living(0, 1);
     layOthers(x);
     x.joy(0, 4);
     x.joy(1, 2);
@@ -116,7 +110,7 @@ public final class ShutterTest {
     due("18 no late, the least", x.fits(0, 0, 3), -2);
     due("18 due stays", x.of(0, 1), 4);
     due("18 late stays", x.of(0, 3), 9);
-    GladSide y = living(1, 3, 5);
+    GladSide y = Lanes.living(1, 3, 5);
     y.mend(0, 9, 10);
     y.joy(0, 0);
     lay(y, 3, 9, 9, 9, 9, 9, 9, 9, 9, 9, 9, 9, 1);
@@ -131,7 +125,7 @@ public final class ShutterTest {
   }
 
   private static void promise19() {
-    GladSide x = living(0, 1, 2);
+    GladSide x = Lanes.living(0, 1, 2);
     layOthers(x);
     x.joy(0, 0);
     x.joy(2, 1);
@@ -151,13 +145,13 @@ public final class ShutterTest {
   }
 
   private static int emptyLaneWho() {
-    GladSide x = living();
+    GladSide x = Lanes.living();
     lay(x, 0, 0);
     return x.who(0);
   }
 
   private static void promise20() {
-    GladSide x = living(0, 1, 2);
+    GladSide x = Lanes.living(0, 1, 2);
     due("20 none had", x.share(0, 9999), 0);
     int[] owners = {0, 1, 1, 2};
     int[] worths = {3, 4, 0, 9};
@@ -182,7 +176,7 @@ public final class ShutterTest {
   }
 
   private static void promise21() {
-    GladSide x = living(0, 2, 11, 7);
+    GladSide x = Lanes.living(0, 2, 11, 7);
     due("21 near 0", x.near(0), 3);
     due("21 near 1", x.near(1), 2);
     due("21 near 2", x.near(2), 4);
@@ -191,35 +185,35 @@ public final class ShutterTest {
     due("21 near -1", x.near(-1), -1);
     x.mend(3, 0, 3);
     due("21 straight across", x.near(1), 0);
-    due("21 own side alone", living(0, 2, 4).near(1), -2);
-    due("21 alone", living(1).near(0), -2);
-    due("21 ends", living(0, 11).near(0), 5);
+    due("21 own side alone", Lanes.living(0, 2, 4).near(1), -2);
+    due("21 alone", Lanes.living(1).near(0), -2);
+    due("21 ends", Lanes.living(0, 11).near(0), 5);
   }
 
   private static void promise22() {
-    due("22 nobody", living().mates(5), 0);
-    due("22 x -1", living(0, 1).mates(-1), -1);
-    due("22 x 6", living(0, 1).mates(6), -1);
-    due("22 one side", living(0, 2, 4).mates(5), 0);
-    GladSide x = living(0, 0, 0, 1, 5, 9, 9);
+    due("22 nobody", Lanes.living().mates(5), 0);
+    due("22 x -1", Lanes.living(0, 1).mates(-1), -1);
+    due("22 x 6", Lanes.living(0, 1).mates(6), -1);
+    due("22 one side", Lanes.living(0, 2, 4).mates(5), 0);
+    GladSide x = Lanes.living(0, 0, 0, 1, 5, 9, 9);
     due("22 straight across", x.mates(0), 1);
     due("22 one apart", x.mates(1), 1);
     due("22 two apart", x.mates(2), 2);
     due("22 three apart", x.mates(3), 2);
     due("22 four apart", x.mates(4), 3);
-    GladSide chain = living(2, 4, 1, 3, 5);
+    GladSide chain = Lanes.living(2, 4, 1, 3, 5);
     due("22 the first gives way", chain.mates(1), 2);
-    GladSide swap = living(4, 0, 5, 9, 1);
+    GladSide swap = Lanes.living(4, 0, 5, 9, 1);
     due("22 each has one", swap.mates(2), 2);
-    GladSide greedy = living(4, 0, 1, 9);
+    GladSide greedy = Lanes.living(4, 0, 1, 9);
     due("22 not the first that fits", greedy.mates(2), 2);
-    due("22 ends", living(0, 11).mates(5), 1);
-    due("22 ends apart", living(0, 11).mates(4), 0);
-    due("22 one for many", living(0, 2, 4, 6, 8, 10, 5).mates(5), 1);
+    due("22 ends", Lanes.living(0, 11).mates(5), 1);
+    due("22 ends apart", Lanes.living(0, 11).mates(4), 0);
+    due("22 one for many", Lanes.living(0, 2, 4, 6, 8, 10, 5).mates(5), 1);
   }
 
   private static void promise23() {
-    GladSide x = living(0, 1, 3);
+    GladSide x = Lanes.living(0, 1, 3);
     due("23 n 0", x.byTurns(0, 0), -2000000000);
     due("23 n 5", x.byTurns(5, 0), -2000000000);
     due("23 what -1", x.byTurns(1, -1), -2000000000);
@@ -230,14 +224,14 @@ public final class ShutterTest {
     due("23 three times", x.byTurns(3, 0), 1);
     due("23 four times", x.byTurns(4, 0), -1);
     due("23 four times, whom", x.byTurns(4, 1), 1);
-    GladSide all = living(0, 2, 4);
+    GladSide all = Lanes.living(0, 2, 4);
     due("23 nothing to do", all.byTurns(1, 0), 3);
     due("23 nobody first", all.byTurns(1, 1), 9);
     due("23 he is moved back", all.byTurns(3, 0), 3);
     due("23 as it was", all.of(0, 0), 0);
-    due("23 nobody lives", living().byTurns(4, 0), 0);
-    due("23 nobody moves", living().byTurns(4, 1), 9);
-    GladSide odd = living(1, 3, 5, 7, 9, 11, 1);
+    due("23 nobody lives", Lanes.living().byTurns(4, 0), 0);
+    due("23 nobody moves", Lanes.living().byTurns(4, 1), 9);
+    GladSide odd = Lanes.living(1, 3, 5, 7, 9, 11, 1);
     due("23 seven on side 1", odd.byTurns(3, 0), -5);
     due("23 nobody first is as good", odd.byTurns(3, 1), 9);
     due("23 the least first", odd.byTurns(1, 1), 0);
@@ -245,7 +239,7 @@ public final class ShutterTest {
   }
 
   private static void promise24() {
-    GladSide x = living(0, 1, 2);
+    GladSide x = Lanes.living(0, 1, 2);
     x.joy(0, 0);
     x.joy(1, 0);
     due("24 n 0", x.drawn(1, 100, -1), -1);
@@ -284,7 +278,7 @@ public final class ShutterTest {
   }
 
   private static GladSide drawnLane() {
-    GladSide x = living(0, 3, 5, 8);
+    GladSide x = Lanes.living(0, 3, 5, 8);
     for (int joy = 0; joy < 6; joy++) {
       x.joy(joy % 4, joy);
       x.mend(joy, 2, 1 + joy);

@@ -19,12 +19,6 @@ public final class ThoughtTest {
     CHECKS.due(call, got, want);
   }
 
-  private static GladSide living(int... houses) {
-    GladSide x = new GladSide();
-    for (int house : houses) x.person(house);
-    return x;
-  }
-
   /** A joy that runs now: of one, with that worth. */
   private static int running(GladSide x, int of, int worth) {
     int joy = x.joy(of, 0);
@@ -34,7 +28,7 @@ public final class ThoughtTest {
   }
 
   private static void promise10() {
-    GladSide x = living(4, 5);
+    GladSide x = Lanes.living(4, 5);
     int joy = running(x, 0, 5);
     due("10 none such", x.smelt(1), -1);
     due("10 below", x.smelt(-1), -1);
@@ -58,7 +52,7 @@ public final class ThoughtTest {
   }
 
   private static void promise11() {
-    GladSide x = living(0, 1, 5, 6);
+    GladSide x = Lanes.living(0, 1, 5, 6);
     due("11 what -1", x.shut(-1), -1);
     due("11 what 2", x.shut(2), -1);
     due("11 none smelt", x.shut(0), 0);
@@ -75,20 +69,18 @@ public final class ThoughtTest {
     due("11 smelt in five", x.smelt(wide), 1 << 3 | 1 << 5 | 1 << 7 | 1 << 9 | 1 << 11);
     due("11 its own is less than all", x.shut(0), 3);
     due("11 which three", x.shut(1), 1 | 1 << 4 | 1 << 6);
-    GladSide y = living(2, 6, 10, 5);
+    GladSide y = Lanes.living(2, 6, 10, 5);
     int a = running(y, 0, 5);
     running(y, 1, 5);
     running(y, 2, 5);
-    String toHouse5 = "g<3";
-    for (int i = 0; i < toHouse5.length(); i++) y.feed(toHouse5.charAt(i));
-    due("11 law", y.law(), 1);
+    due("11 law", Lanes.told(y, "g<3"), 1);
     y.mend(0, 10, 1);
     due("11 reach", y.smelt(a), 1 << 1 | 1 << 3 | 1 << 5 | 1 << 7);
     due("11 the owners' three", y.shut(1), 1 << 2 | 1 << 6 | 1 << 10);
   }
 
   private static void promise12Joys() {
-    GladSide x = living(0, 1, 2);
+    GladSide x = Lanes.living(0, 1, 2);
     x.joy(0, 1);
     x.joy(1, 0);
     x.joy(2, 3);
@@ -120,7 +112,7 @@ public final class ThoughtTest {
   }
 
   private static void promise12Votes() {
-    GladSide x = living(1, 3, 0);
+    GladSide x = Lanes.living(1, 3, 0);
     x.mend(0, 9, 3);
     due("12 no vote on day 0", x.lane(1, 5), 0);
     due("12 before the vote", x.lane(3, 5), 0);
@@ -139,18 +131,18 @@ public final class ThoughtTest {
     x.moves(0, 4);
     x.moves(1, 4);
     due("12 another turn", x.lane(3, 8), 1);
-    GladSide y = living(1, 0);
+    GladSide y = Lanes.living(1, 0);
     y.mend(0, 8, 1);
     y.mend(0, 9, 2);
     due("12 as many: it stays", y.lane(60, 5), 1);
     due("12 as many: no turn", y.lane(60, 8), 0);
-    GladSide z = living(1);
+    GladSide z = Lanes.living(1);
     z.mend(0, 9, 2);
     z.mend(0, 11, 2);
     due("12 the vote of today", z.lane(1, 5), 1);
     z.mend(0, 11, 199);
     due("12 day 199 has no vote", z.lane(60, 5), 0);
-    GladSide still = living(0);
+    GladSide still = Lanes.living(0);
     still.joy(0, 0);
     still.mend(0, 6, 1);
     still.mend(0, 8, 1);
@@ -164,7 +156,7 @@ public final class ThoughtTest {
   }
 
   private static void promise12Edges() {
-    GladSide x = living(0);
+    GladSide x = Lanes.living(0);
     due("12 n -1", x.lane(-1, 0), -1);
     due("12 n 61", x.lane(61, 0), -1);
     due("12 what -1", x.lane(0, -1), -1);
@@ -177,7 +169,7 @@ public final class ThoughtTest {
     due("12 lost is not had", x.lane(0, 2), 0);
     x.mend(0, 7, 0);
     due("12 ran more than it lasts: had", x.lane(0, 2), 1);
-    GladSide late = living(1);
+    GladSide late = Lanes.living(1);
     late.joy(0, 50);
     late.mend(0, 11, 59);
     due("12 lost on the day of due and late", late.lane(1, 3), 1);
@@ -191,7 +183,7 @@ public final class ThoughtTest {
   }
 
   private static void promise13() {
-    GladSide x = living(0, 1);
+    GladSide x = Lanes.living(0, 1);
     x.joy(0, 5);
     x.joy(1, 5);
     due("13 had", x.when(0, 0), 7);
@@ -218,10 +210,10 @@ public final class ThoughtTest {
   }
 
   private static void promise14() {
-    GladSide x = living();
+    GladSide x = Lanes.living();
     due("14 nobody", x.move(40, 1), 99);
     due("14 nothing", x.move(40, 0), 0);
-    x = living(0, 1, 3, 4);
+    x = Lanes.living(0, 1, 3, 4);
     due("14 n -1", x.move(-1, 0), -1);
     due("14 n 41", x.move(41, 0), -1);
     due("14 what 2", x.move(0, 2), -1);
@@ -241,41 +233,41 @@ public final class ThoughtTest {
     x.mend(0, 8, 0);
     due("14 one move turns the vote", x.move(2, 0), 12);
     due("14 the first one turns it", x.move(2, 1), 1);
-    GladSide y = living(0);
+    GladSide y = Lanes.living(0);
     y.joy(0, 0);
     due("14 none is as good", y.move(10, 1), 99);
     due("14 by none", y.move(10, 0), 5);
     due("14 nobody moved", y.of(0, 0), 0);
     y.mend(0, 8, 1);
     due("14 to the least house", y.move(2, 1), 1);
-    GladSide z = living(0, 0, 0, 0, 0, 0, 1);
+    GladSide z = Lanes.living(0, 0, 0, 0, 0, 0, 1);
     z.joy(6, 0);
     due("14 the last one to house 0", z.move(40, 1), 72);
   }
 
   private static void promise15() {
-    GladSide x = living();
+    GladSide x = Lanes.living();
     due("15 v -1", x.over(-1), -1);
     due("15 v 2", x.over(2), -1);
     due("15 nobody, it is so", x.over(0), 0);
     due("15 nobody, it can't be", x.over(1), -2);
     x.mend(0, 8, 1);
     due("15 nobody, other side", x.over(0), -2);
-    x = living(0, 2, 4, 6, 8, 10, 11);
+    x = Lanes.living(0, 2, 4, 6, 8, 10, 11);
     due("15 six to one", x.over(0), 0);
     due("15 from six to one", x.over(1), 3);
-    x = living(0, 2, 4, 6, 9, 11);
+    x = Lanes.living(0, 2, 4, 6, 9, 11);
     due("15 from four to two", x.over(1), 2);
     x.mend(0, 8, 1);
     due("15 as many is enough", x.over(1), 1);
     due("15 more is so already", x.over(0), 0);
-    x = living(1);
+    x = Lanes.living(1);
     due("15 alone", x.over(0), 1);
     due("15 alone, so already", x.over(1), 0);
   }
 
   private static void promise16() {
-    GladSide x = living(0, 1);
+    GladSide x = Lanes.living(0, 1);
     due("16 no joy", x.date(0, 0, 0), -1);
     x.joy(0, 30);
     due("16 joy -1", x.date(-1, 0, 0), -1);
@@ -289,13 +281,13 @@ public final class ThoughtTest {
     due("16 too early for any", x.date(0, 1, 1), 0);
     due("16 of like ones the least", x.date(0, 1, 0), 0);
     due("16 due stays", x.of(0, 1), 30);
-    GladSide y = living(1, 3);
+    GladSide y = Lanes.living(1, 3);
     y.mend(0, 9, 20);
     y.joy(0, 50);
     due("16 late enough for the vote", y.date(0, 60, 0), 11);
     due("16 had by it", y.date(0, 60, 1), 5);
     due("16 no change that may be undone", y.count(3), 1);
-    GladSide last = living(1);
+    GladSide last = Lanes.living(1);
     last.joy(0, 0);
     last.mend(0, 11, 107);
     due("16 the last due alone", last.date(0, 60, 0), 99);
