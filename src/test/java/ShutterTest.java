@@ -19,11 +19,6 @@ public final class ShutterTest {
     CHECKS.due(call, got, want);
   }
 
-  private static void lay(GladSide x, int shelf, int... seen) {
-    x.row(shelf, 0, seen.length);
-    for (int i = 0; i < seen.length; i++) x.put(shelf, i, seen[i]);
-  }
-
   /** Row refusals, as judge(), fits() and who() share them. */
   private static void refuses(String call, int ofEmpty, int ofBody, int ofShorts, int below, int above) {
     due(call + " nothing there", ofEmpty, -11);
@@ -47,22 +42,22 @@ public final class ShutterTest {
     due("17 one 2", x.judge(0, 2), -1);
     due("17 one -1", x.judge(0, -1), -1);
     due("17 bad ahead of -12", x.judge(1, 2), -1);
-    lay(x, 0);
+    Lanes.lay(x, 0);
     due("17 no elements", x.judge(0, 0), -2);
-    lay(x, 0, 0, 0, 1, 0);
+    Lanes.lay(x, 0, 0, 0, 1, 0);
     due("17 all so", x.judge(0, 0), -2);
     due("17 the other one", x.judge(0, 1), 2);
-    lay(x, 0, 9, 9, 0, 1);
+    Lanes.lay(x, 0, 9, 9, 0, 1);
     due("17 not glad there", x.judge(0, 0), 2);
-    lay(x, 0, 9, 9, 9, 1);
+    Lanes.lay(x, 0, 9, 9, 9, 1);
     due("17 no longer glad", x.judge(0, 0), 3);
-    lay(x, 0, 9, 2);
+    Lanes.lay(x, 0, 9, 2);
     due("17 2 is not so", x.judge(0, 0), 1);
-    lay(x, 0, -1);
+    Lanes.lay(x, 0, -1);
     due("17 -1 is not so", x.judge(0, 0), 0);
-    lay(x, 0, 257, 256, 265, 256);
+    Lanes.lay(x, 0, 257, 256, 265, 256);
     due("17 lowest bits", x.judge(0, 1), 0);
-    lay(x, 0, 256, 256, 257, 265);
+    Lanes.lay(x, 0, 256, 256, 257, 265);
     due("17 lowest bits so", x.judge(0, 0), -2);
   }
 
@@ -73,10 +68,10 @@ public final class ShutterTest {
     seen[40] = 1;
     seen[41] = 7;
     seen[59] = 1;
-    lay(x, 5, seen);
+    Lanes.lay(x, 5, seen);
     due("17 41 at most count", x.judge(5, 0), -2);
     seen[40] = 0;
-    lay(x, 5, seen);
+    Lanes.lay(x, 5, seen);
     due("17 the last that counts", x.judge(5, 0), 40);
   }
 
@@ -86,7 +81,7 @@ public final class ShutterTest {
     x.joy(0, 4);
     x.joy(1, 2);
     refuses("18", x.fits(0, 0, 0), x.fits(1, 0, 0), x.fits(2, 0, 0), x.fits(-1, 0, 0), x.fits(6, 0, 0));
-    lay(x, 0, 0, 0, 9, 1, 9);
+    Lanes.lay(x, 0, 0, 0, 9, 1, 9);
     due("18 what -1", x.fits(0, 0, -1), -1);
     due("18 what 4", x.fits(0, 0, 4), -1);
     due("18 joy 2", x.fits(0, 2, 0), -1);
@@ -97,13 +92,13 @@ public final class ShutterTest {
     due("18 one due alone", x.fits(0, 0, 0), 1);
     due("18 which", x.fits(0, 0, 1), 2);
     x.mend(0, 2, 9);
-    lay(x, 0, 9, 9, 9, 1);
+    Lanes.lay(x, 0, 9, 9, 9, 1);
     due("18 three dues", x.fits(0, 0, 0), 3);
     due("18 the least of three", x.fits(0, 0, 1), 0);
-    lay(x, 0, 0, 0);
+    Lanes.lay(x, 0, 0, 0);
     due("18 as good as all", x.fits(0, 0, 0), 99);
     due("18 from 1 on", x.fits(0, 0, 1), 1);
-    lay(x, 0, 1);
+    Lanes.lay(x, 0, 1);
     due("18 none", x.fits(0, 0, 0), 0);
     due("18 none, the least", x.fits(0, 0, 1), -2);
     due("18 no late", x.fits(0, 0, 2), 0);
@@ -113,13 +108,13 @@ public final class ShutterTest {
     GladSide y = Lanes.living(1, 3, 5);
     y.mend(0, 9, 10);
     y.joy(0, 0);
-    lay(y, 3, 9, 9, 9, 9, 9, 9, 9, 9, 9, 9, 9, 1);
+    Lanes.lay(y, 3, 9, 9, 9, 9, 9, 9, 9, 9, 9, 9, 9, 1);
     due("18 lates till the vote", y.fits(3, 0, 2), 31);
     due("18 the least late", y.fits(3, 0, 3), 10);
-    lay(y, 3, 9, 9, 9, 9, 9, 9, 9, 9, 9, 9, 9, 0);
+    Lanes.lay(y, 3, 9, 9, 9, 9, 9, 9, 9, 9, 9, 9, 9, 0);
     due("18 lates too few", y.fits(3, 0, 2), 10);
     due("18 the least of these", y.fits(3, 0, 3), 0);
-    lay(y, 3, 0, 0);
+    Lanes.lay(y, 3, 0, 0);
     due("18 another's shutters, all lates", y.fits(3, 10, 2), 41);
     due("18 another's shutters, all dues", y.fits(3, 10, 0), 100);
   }
@@ -131,22 +126,22 @@ public final class ShutterTest {
     x.joy(2, 1);
     int[] refused = {x.who(0), x.who(1), x.who(2), x.who(-1), x.who(6)};
     refuses("19", refused[0], refused[1], refused[2], refused[3], refused[4]);
-    lay(x, 0);
+    Lanes.lay(x, 0);
     due("19 anybody", x.who(0), 7);
-    lay(x, 0, 0, 0);
+    Lanes.lay(x, 0, 0, 0);
     due("19 not the first", x.who(0), 6);
-    lay(x, 0, 9, 1);
+    Lanes.lay(x, 0, 9, 1);
     due("19 the first", x.who(0), 1);
-    lay(x, 0, 9, 9, 1);
+    Lanes.lay(x, 0, 9, 9, 1);
     due("19 the third", x.who(0), 4);
-    lay(x, 0, 3);
+    Lanes.lay(x, 0, 3);
     due("19 nobody", x.who(0), 0);
     due("19 none at all", emptyLaneWho(), 0);
   }
 
   private static int emptyLaneWho() {
     GladSide x = Lanes.living();
-    lay(x, 0, 0);
+    Lanes.lay(x, 0, 0);
     return x.who(0);
   }
 

@@ -19,17 +19,9 @@ public final class ThoughtTest {
     CHECKS.due(call, got, want);
   }
 
-  /** A joy that runs now: of one, with that worth. */
-  private static int running(GladSide x, int of, int worth) {
-    int joy = x.joy(of, 0);
-    x.mend(joy, 6, 1);
-    x.mend(joy, 4, worth);
-    return joy;
-  }
-
   private static void promise10() {
     GladSide x = Lanes.living(4, 5);
-    int joy = running(x, 0, 5);
+    int joy = Lanes.running(x, 0, 5);
     due("10 none such", x.smelt(1), -1);
     due("10 below", x.smelt(-1), -1);
     due("10 own place alone", x.smelt(joy), 1 << 5);
@@ -46,7 +38,7 @@ public final class ThoughtTest {
     x.mend(joy, 6, 1);
     x.mend(joy, 7, 1);
     due("10 lost", x.smelt(joy), 0);
-    int odd = running(x, 1, 5);
+    int odd = Lanes.running(x, 1, 5);
     x.mend(0, 10, 5);
     due("10 from side 1", x.smelt(odd), 1 << 4);
   }
@@ -57,22 +49,22 @@ public final class ThoughtTest {
     due("11 what 2", x.shut(2), -1);
     due("11 none smelt", x.shut(0), 0);
     due("11 none smelt, which", x.shut(1), 0);
-    running(x, 0, 5);
+    Lanes.running(x, 0, 5);
     due("11 of like ones the least", x.shut(1), 1);
-    running(x, 1, 5);
+    Lanes.running(x, 1, 5);
     due("11 both by one", x.shut(0), 1);
     due("11 both by the least one", x.shut(1), 1);
-    running(x, 2, 5);
+    Lanes.running(x, 2, 5);
     due("11 two", x.shut(0), 2);
     due("11 which two", x.shut(1), 1 | 1 << 4);
-    int wide = running(x, 3, 9);
+    int wide = Lanes.running(x, 3, 9);
     due("11 smelt in five", x.smelt(wide), 1 << 3 | 1 << 5 | 1 << 7 | 1 << 9 | 1 << 11);
     due("11 its own is less than all", x.shut(0), 3);
     due("11 which three", x.shut(1), 1 | 1 << 4 | 1 << 6);
     GladSide y = Lanes.living(2, 6, 10, 5);
-    int a = running(y, 0, 5);
-    running(y, 1, 5);
-    running(y, 2, 5);
+    int a = Lanes.running(y, 0, 5);
+    Lanes.running(y, 1, 5);
+    Lanes.running(y, 2, 5);
     due("11 law", Lanes.told(y, "g<3"), 1);
     y.mend(0, 10, 1);
     due("11 reach", y.smelt(a), 1 << 1 | 1 << 3 | 1 << 5 | 1 << 7);
