@@ -1147,7 +1147,7 @@ public final class GladSide {
   private static final class Acts {
     static final int KINDS = 8;
     private static final int MOST = 50, TRACED = 24, ACTS = 4, DEEPEST = 40;
-    private static final int OPENS = 0, SMELLS = 1, VOTING = 2, TELLS = 3;
+    private static final int OPENS = 0, SMELLS = 1, VOTING = 2;
     private static final int[] ABOVE = {-1, 0, 0, 2, 1, 3, 0, 6};
     /** By kind, then act: the number of the kind's own body; 0: it has none. */
     private static final int[] OWN = {

@@ -83,6 +83,10 @@ public final class LawEdgesTest {
     behind("(!-(!-", "", DIGITS + NAMES);
     behind("w------", DIGITS + NAMES, OPENERS);
     behind("w-------", DIGITS + NAMES, "");
+    for (char sign : (JOINS + COMPARES + "?;").toCharArray()) {
+      behind("w" + sign + "!!!!!!", DIGITS + NAMES, "");
+      behind("w" + sign + "((((((", "", DIGITS + NAMES);
+    }
     String[] texts = {"((((((w))))))", "(((((((w)))))))", "!!!!!!w", "!!!!!!!w", "------w", "-------w", "w-------w", "w--------w",
       "((((((w))))))+((((((w))))))", "!!!!!!w+!!!!!!w", "(!!!!!w+!!!!!w)", "(!!!!!!w)", "(((((w)+(w)))))", "((((((w)+(w))))))",
       "((((((w)+((w)))))))", "!(w)!", "!(!(!(w)))", "!(!(!(!w)))", "((((((w)))))(", "w;!!!!!!w?------w;((((((w))))))"};

@@ -296,6 +296,11 @@ public final class ThoughtEdgesTest {
     due("16 that of the last DUE", last.date(0, 60, 1), 5);
     last.mend(0, 11, 138);
     due("16 the vote comes first: any DUE", last.date(0, 60, 0), 0);
+    last.mend(0, 3, 40);
+    last.mend(0, 11, 139);
+    last.mend(0, 9, 20);
+    due("16 DUE 100 would do, but is none", last.date(0, 60, 1), 0);
+    due("16 DUE 100 would do: the least", last.date(0, 60, 0), 0);
   }
 
   private static void dateOfLikeOnes() {
